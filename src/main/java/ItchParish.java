@@ -862,6 +862,18 @@ public final class ItchParish {
             return sortHere() == NAME ? valueHere() : NONE;
         }
 
+        /** The PERSON whose NAME stands here, or NONE with a FAULT told. */
+        int takePersonOf(Parish parish) {
+            long name = nameHere();
+            int person = name == NONE || parish == null ? NONE : parish.personNamed(name);
+            if (person == NONE) {
+                refuse(name == NONE ? 2 : 3);
+                return NONE;
+            }
+            next();
+            return person;
+        }
+
         /** Tells a FAULT of the TOKEN here; what begins no TOKEN has the least kind, whatever else it is. */
         boolean refuse(int kind) {
             faultKind = sortHere() == STRANGE ? 1 : kind;
@@ -893,8 +905,8 @@ public final class ItchParish {
     private static final class DistrictReader {
         private final Tape tape;
         private final Parish parish;
-        private boolean isOddsTold = false;
-        private boolean isArmTold = false;
+        // A bit for each word that may be told but once.
+        private int told = 0;
 
         DistrictReader(Tape from, Parish into) {
             tape = from;
@@ -902,8 +914,7 @@ public final class ItchParish {
         }
 
         boolean takeAll() {
-            isOddsTold = false;
-            isArmTold = false;
+            told = 0;
             parish.clear();
             for (int part = 0; part < Tape.LONGEST && !tape.isAtEnd(); part++) {
                 if (!takePart() || !tape.take(';')) {
@@ -916,9 +927,9 @@ public final class ItchParish {
         private boolean takePart() {
             switch (tape.sortHere()) {
                 case Tape.ODDS:
-                    return takeOdds();
+                    return takeRule(Tape.ODDS, Parish.MOST_ODDS);
                 case Tape.ARM:
-                    return takeArm();
+                    return takeRule(Tape.ARM, Parish.LAST_HOME);
                 case Tape.KIND:
                     return takeKind();
                 case Tape.PERSON:
@@ -930,26 +941,20 @@ public final class ItchParish {
             }
         }
 
-        private boolean takeOdds() {
-            if (isOddsTold) {
+        private boolean takeRule(int word, int most) {
+            int bit = 1 << word - Tape.ODDS;
+            if ((told & bit) != 0) {
                 return tape.refuse(5);
             }
-            isOddsTold = true;
+            told |= bit;
             tape.next();
-            int odds = tape.takeNumber(0, Parish.MOST_ODDS);
-            parish.setOdds(odds);
-            return odds != NONE;
-        }
-
-        private boolean takeArm() {
-            if (isArmTold) {
-                return tape.refuse(5);
+            int much = tape.takeNumber(0, most);
+            if (word == Tape.ODDS) {
+                parish.setOdds(much);
+            } else {
+                parish.setArm(much);
             }
-            isArmTold = true;
-            tape.next();
-            int arm = tape.takeNumber(0, Parish.LAST_HOME);
-            parish.setArm(arm);
-            return arm != NONE;
+            return much != NONE;
         }
 
         private boolean takeKind() {
@@ -1014,7 +1019,7 @@ public final class ItchParish {
             }
             tape.next();
             // An eleventh SPOT is told already, or none.
-            for (int told = 0; told <= Parish.SPOTS && tape.isAtNumber(); told++) {
+            for (int k = 0; k <= Parish.SPOTS && tape.isAtNumber(); k++) {
                 if (tape.isAtNumberOf(reach)) {
                     tape.refuse(5);
                     return NONE;
@@ -1033,15 +1038,10 @@ public final class ItchParish {
                 return tape.refuse(6);
             }
             tape.next();
-            long name = tape.nameHere();
-            if (name == NONE) {
-                return tape.refuse(2);
-            }
-            int owner = parish.personNamed(name);
+            int owner = tape.takePersonOf(parish);
             if (owner == NONE) {
-                return tape.refuse(3);
+                return false;
             }
-            tape.next();
             int kind = tape.takeNumber(0, parish.kinds() - 1);
             if (kind == NONE) {
                 return false;
@@ -1142,15 +1142,10 @@ public final class ItchParish {
         }
 
         private boolean takeDeedOf(int deed, int most) {
-            long name = tape.nameHere();
-            if (name == NONE) {
-                return tape.refuse(2);
-            }
-            int person = parish.personNamed(name);
+            int person = tape.takePersonOf(parish);
             if (person == NONE) {
-                return tape.refuse(3);
+                return false;
             }
-            tape.next();
             int number = tape.takeNumber(0, most);
             plan.addStep(deed, person, number);
             return number != NONE;

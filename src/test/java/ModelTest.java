@@ -51,7 +51,8 @@ public final class ModelTest {
     }
 
     private void all(int run) {
-        int calls = 0;
+        int calls = run % 3 == 0 ? 0 : trays() + fullDistrict();
+        calls += run % 7 == 1 ? late() : 0;
         while (calls < CALLS) {
             calls += one();
             String what = "run " + run + " call " + calls + " " + call;
@@ -61,6 +62,25 @@ public final class ModelTest {
             CHECKS.due(what + " fault 0", x.fault(0), m.faultKind);
             CHECKS.due(what + " fault 1", x.fault(1), m.faultPlace);
         }
+    }
+
+    private int trays() {
+        for (int t = 0; t < 4; t++) {
+            int tray = t;
+            int sort = below(4);
+            int length = chance(50) ? 60 : below(30);
+            alike("tray", bit(x.tray(tray, sort, length)), () -> bit(m.tray(tray, sort, length)), 0);
+        }
+        return 4;
+    }
+
+    // Near the last MINUTE, where what would go beyond it is MISSED.
+    private int late() {
+        for (int k = 0; k < 10; k++) {
+            int minutes = k < 9 ? 999 : 900 + below(99);
+            alike("pass " + minutes, x.pass(minutes), () -> m.pass(minutes), -1);
+        }
+        return 10;
     }
 
     private static long bit(boolean is) {
@@ -81,7 +101,9 @@ public final class ModelTest {
     }
 
     private String nameOrOther() {
-        return chance(97) ? NAMES[below(NAMES.length)] : WORDS[below(WORDS.length)];
+        int draw = below(100);
+        return draw < 98 && !m.now.people.isEmpty() ? NAMES[below(m.now.people.size())]
+            : draw < 99 ? NAMES[below(NAMES.length)] : WORDS[below(WORDS.length)];
     }
 
     private String districtText() {
@@ -125,7 +147,8 @@ public final class ModelTest {
                     s.append("wait ").append(1 + below(chance(80) ? 20 : 99)).append(';');
                     break;
                 case 1:
-                    s.append("lose ").append(nameOrOther()).append(' ').append(below(3)).append(';');
+                    s.append("lose ").append(nameOrOther()).append(' ')
+                        .append(chance(98) ? below(Math.max(1, m.now.kinds.size())) : below(5)).append(';');
                     break;
                 case 2:
                 case 3:
@@ -138,7 +161,8 @@ public final class ModelTest {
                     break;
                 case 7:
                     s.append("when ").append(chance(40) ? "found " + below(8) : chance(50) ? "up " + below(8)
-                        : "minute " + "<>=".charAt(below(3)) + below(120)).append(';');
+                        : "minute " + "<>=".charAt(below(3))
+                        + Math.max(0, m.now.minute + below(60) - 20)).append(';');
                     rest(s, depth);
                     break;
                 case 8:
@@ -179,7 +203,7 @@ public final class ModelTest {
                     s.insert(blank < 0 ? 0 : blank, " " + WORDS[below(WORDS.length)]);
                     break;
                 default:
-                    s.setCharAt(at, (char) (chance(50) ? below(256) : "abz059;<=> \n"    .charAt(below(12))));
+                    s.setCharAt(at, (char) (chance(50) ? below(256) : "abz059;<=> \n".charAt(below(12))));
             }
         }
         return s.toString();
@@ -201,7 +225,7 @@ public final class ModelTest {
 
     private int fullDistrict() {
         String text = districtText();
-        text = chance(25) ? spoilt(text) : text;
+        text = chance(30) ? spoilt(text) : text;
         int calls = feed(text);
         int n = chance(97) ? text.length() : about(900);
         alike("district(" + n + ") " + text, x.district(n), () -> m.district(n), -1);
@@ -211,7 +235,7 @@ public final class ModelTest {
     private int fullDays() {
         StringBuilder s = new StringBuilder();
         steps(s, 0);
-        String text = chance(25) ? spoilt(s.toString()) : s.toString();
+        String text = chance(30) ? spoilt(s.toString()) : s.toString();
         if (text.length() > 300 && chance(80)) {
             text = text.substring(0, 300);
         }

@@ -292,6 +292,8 @@ public final class PromiseTest {
         districtFault(kind.repeat(5) + "kind", 6, 95);
         districtFault(SEVEN + "person", 6, SEVEN.length());
         districtFault(kind + "person a home 1;" + "thing a 0;".repeat(8) + "thing 12345", 6, 115);
+        districtFault(";".repeat(900), 2, 0);
+        districtFault(" ".repeat(880) + "odds 1 ; arm 2 ; 9 9", 2, 897);
         ItchParish x = new ItchParish();
         CHECKS.fine("five kinds", x, Checks.district(x, kind.repeat(5)), 0);
         CHECKS.fine("eight things", x, Checks.district(x, kind + "person a home 1;" + "thing a 0;".repeat(8)), 1);
@@ -362,8 +364,10 @@ public final class PromiseTest {
         daysFault("loop 1;when up 1;loop 1;loop", 7, 24);
         ItchParish x = Checks.with(FOUR);
         x.come(0);
-        CHECKS.refused("nobody without a name is named", x, Checks.days(x, "lose ed 0;"), 10);
-        CHECKS.due("fault 0", x.fault(0), 3);
+        for (String name : new String[] {"a", "b", "z", "ed", "a".repeat(8)}) {
+            CHECKS.refused("nobody without a name is named " + name, x, Checks.days(x, "lose " + name + " 0;"), 10);
+            CHECKS.due("fault 0", x.fault(0), 3);
+        }
     }
 
     // Promise 12
@@ -970,6 +974,10 @@ public final class PromiseTest {
         lived("a loop about nothing is no step to be done", x, 0, 100, 0, 0, 0);
         Checks.days(x, "loop 99;loop 99;end;end;");
         CHECKS.fine("loops about nothing", x, x.live(0), 100);
+        Checks.days(x, "loop 99;stop;end;");
+        CHECKS.fine("stopped in a loop", x, x.live(0), 2);
+        Checks.days(x, "when minute>0;wait 1;end;");
+        CHECKS.fine("a when where the loop was", x, x.live(0), 2);
         Checks.days(x, "loop 2;loop 3;when minute<0;end;wait 1;end;end;");
         CHECKS.fine("loops in loops", x, x.live(0), 15);
         lived("loops in loops", x, 0, 6, 0, 0, 0);
