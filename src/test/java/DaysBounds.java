@@ -63,7 +63,7 @@ final class DaysBounds {
         s.fine("DAYS of no STEPS", x, x.live(0), 0);
         Checks.days(x, "scratch a 0;");
         s.fine("a MISSED one, too", x, x.live(0), 1);
-        s.says(0, "LIVED by a seed (0 to 9,999): all is as it becomes by it, and stays so.");
+        s.says(46, "LIVED by a seed (0 to 9,999): all is as it becomes by it, and stays so.");
         s.fine("seed 9999", x, x.live(9999), 1);
         s.refused("seed 10000", x, x.live(10000), 5);
         s.refused("seed -1", x, x.live(-1), 5);
@@ -106,7 +106,7 @@ final class DaysBounds {
     }
 
     private void waits() {
-        s.says(0, "What can't be is MISSED: MINUTES beyond 9,999 (as a whole, by any, too)");
+        s.says(46, "What can't be is MISSED: MINUTES beyond 9,999 (as a whole, by any, too)");
         ItchParish x = atMinute(ALONE, 9900);
         live("wait 99;", x, 1, 0, 99, 0, 0, 0);
         s.fine("9999", x, x.many(5), 9999);
@@ -118,13 +118,13 @@ final class DaysBounds {
     }
 
     private void losses() {
-        s.says(0, "lose: a PERSON, a KIND (WORTH 1)");
+        s.says(46, "lose: a PERSON, a KIND (WORTH 1)");
         ItchParish x = atMinute(ALONE + "thing a 0 worth 9;".repeat(7), 4);
         live("lose a 1;", x, 1, 0, 0, 1, 0, 0);
         s.fine("WORTH 1", x, x.thing(7, 2), 1);
         s.fine("KIND", x, x.thing(7, 1), 1);
         s.fine("LOST", x, x.thing(7, 3), 4);
-        s.says(0, "a lose of a ninth THING");
+        s.says(46, "a lose of a ninth THING");
         live("lose a 0;lose a 0;", x, 2, 2, 0, 0, 0, 0);
         s.fine("eight", x, x.many(2), 8);
         ItchParish y = Checks.with(ALONE);
@@ -132,7 +132,7 @@ final class DaysBounds {
     }
 
     private void scratches() {
-        s.says(0, "a scratch (by any, too) of a THING that there is not, that is not UP, by one who can't");
+        s.says(46, "a scratch (by any, too) of a THING that there is not, that is not UP, by one who can't");
         ItchParish x = Checks.with(ALONE + "thing a 0;");
         live("scratch a 1;scratch a 7;", x, 2, 2, 0, 0, 0, 0);
         live("scratch a 0;scratch a 0;", x, 2, 1, 0, 0, 1, 0);
@@ -143,7 +143,7 @@ final class DaysBounds {
     }
 
     private void tests() {
-        s.says(0, "found, up: a THING (0 to 7) that there is and that is FOUND, UP now;");
+        s.says(46, "found, up: a THING (0 to 7) that there is and that is FOUND, UP now;");
         String both = "when up 0;wait 1;end;when found 0;wait 2;end;";
         ItchParish x = Checks.with(ALONE);
         live(both + "when up 7;wait 9;end;when found 7;wait 9;end;", x, 4, 0, 0, 0, 0, 0);
@@ -162,7 +162,7 @@ final class DaysBounds {
     }
 
     private void comparesAtEdges() {
-        s.says(0, "minute: 0 to 9,999;");
+        s.says(46, "minute: 0 to 9,999;");
         String all = "when minute<5;lose a 0;end;when minute=5;lose a 0;lose a 0;end;when minute>5;lose a 0;lose a 0;lose a 0;end;";
         int[] lost = {1, 2, 3};
         for (int k = 0; k < 3; k++) {
@@ -179,7 +179,7 @@ final class DaysBounds {
     }
 
     private void drawsByHand() {
-        s.says(0, "Draws: s, at first the seed, becomes what is left of s times 2,971 and 10,957 by 65,536; the draw by n is the rest of s by 8, rounded down, by n.");
+        s.says(46, "Draws: s, at first the seed, becomes what is left of s times 2,971 and 10,957 by 65,536; the draw by n is the rest of s by 8, rounded down, by n.");
         // By seed 0, s is 10957, 58348, 20145, 27384, 38645, 6180: by 8 and rounded down 1369, 7293, 2518, 3423, 4830, 772.
         ItchParish x = Checks.with("odds 7;" + SEVEN + "thing a 0;".repeat(8));
         live("any;", x, 1, 0, 0, 0, 1, 0);
@@ -189,7 +189,7 @@ final class DaysBounds {
         s.fine("then 3423 by 7 is 0, 4830 by 8 is 6, 772 by 16 is 4", y, y.many(7), 96);
         live("any;", y, 1, 1, 0, 0, 0, 0);
         s.fine("each time from the seed: THING 5 again", y, y.many(7), 96);
-        s.says(0, "any: a PERSON by a draw by how many there are, a THING by a draw by how many there are, a draw by 16 (all three first):");
+        s.says(46, "any: a PERSON by a draw by how many there are, a THING by a draw by how many there are, a draw by 16 (all three first):");
         ItchParish z = Checks.with("odds 6;" + SEVEN + "thing a 0;".repeat(8));
         live("any;any;", z, 2, 0, 1, 0, 1, 0);
         s.fine("THING 6 alone", z, z.many(7), 64);
@@ -199,7 +199,7 @@ final class DaysBounds {
     }
 
     private void anyBelowOdds() {
-        s.says(0, "if that is below ODDS, he SCRATCHES it, else a MINUTE goes by.");
+        s.says(46, "if that is below ODDS, he SCRATCHES it, else a MINUTE goes by.");
         // The third draw by 16 is 6 by seed 0, 15 by seed 9999 (s: 30178, 16547, 20094).
         int[] odds = {0, 6, 7, 16};
         for (int much : odds) {
@@ -217,11 +217,11 @@ final class DaysBounds {
     }
 
     private void anyMissed() {
-        s.says(0, "MINUTES beyond 9,999 (as a whole, by any, too)");
+        s.says(46, "MINUTES beyond 9,999 (as a whole, by any, too)");
         ItchParish x = atMinute("odds 0;" + ALONE + "thing a 0;", 9998);
         live("any;any;any;", x, 3, 2, 1, 0, 0, 0);
         s.fine("9999", x, x.many(5), 9999);
-        s.says(0, "a scratch (by any, too) of a THING that there is not, that is not UP, by one who can't");
+        s.says(46, "a scratch (by any, too) of a THING that there is not, that is not UP, by one who can't");
         ItchParish y = Checks.with("odds 16;" + ALONE + "thing a 0;");
         live("any;any;any;", y, 3, 2, 0, 0, 1, 0);
         ItchParish z = Checks.with("odds 16;" + ALONE + "thing a 1;");
@@ -233,7 +233,7 @@ final class DaysBounds {
     }
 
     private void anyWithout() {
-        s.says(0, "any without PEOPLE or THINGS (no draws).");
+        s.says(46, "any without PEOPLE or THINGS (no draws).");
         ItchParish nobody = new ItchParish();
         live("any;any;", nobody, 2, 2, 0, 0, 0, 0);
         s.fine("no MINUTE went by", nobody, nobody.many(5), 0);
@@ -245,7 +245,7 @@ final class DaysBounds {
     }
 
     private void loops() {
-        s.says(0, "loop n (1 to 99): as often.");
+        s.says(46, "loop n (1 to 99): as often.");
         ItchParish x = Checks.with(ALONE);
         live("loop 1;wait 1;end;", x, 2, 0, 1, 0, 0, 0);
         live("loop 99;wait 1;end;", x, 100, 0, 99, 0, 0, 0);
@@ -253,7 +253,7 @@ final class DaysBounds {
         live("loop 2;loop 2;loop 2;wait 1;end;end;end;", x, 15, 0, 8, 0, 0, 0);
         live("loop 99;end;wait 1;", x, 2, 0, 1, 0, 0, 0);
         live("loop 2;loop 99;end;end;", x, 3, 0, 0, 0, 0, 0);
-        s.says(0, "At most 300 STEPS (when, loop count as one each time they are come to from ahead; end does not).");
+        s.says(46, "At most 300 STEPS (when, loop count as one each time they are come to from ahead; end does not).");
         live("loop 3;when minute<0;wait 1;end;end;", x, 4, 0, 0, 0, 0, 0);
         live("loop 3;when minute>0;wait 1;end;end;", x, 7, 0, 3, 0, 0, 0);
         live("when minute>0;end;when minute<0;end;", x, 2, 0, 0, 0, 0, 0);
@@ -261,7 +261,7 @@ final class DaysBounds {
     }
 
     private void threeHundred() {
-        s.says(0, "At most 300 STEPS (when, loop count as one each time they are come to from ahead; end does not).");
+        s.says(46, "At most 300 STEPS (when, loop count as one each time they are come to from ahead; end does not).");
         s.says(47, "4: 1 if a STEP was left to be done (by the 300 alone, not by stop), else 0");
         ItchParish x = Checks.with(ALONE);
         String most = "loop 99;wait 1;wait 1;wait 1;end;";
@@ -290,7 +290,7 @@ final class DaysBounds {
     }
 
     private void stays() {
-        s.says(0, "LIVED by a seed (0 to 9,999): all is as it becomes by it, and stays so.");
+        s.says(46, "LIVED by a seed (0 to 9,999): all is as it becomes by it, and stays so.");
         ItchParish x = Checks.with(ALONE);
         live("lose a 0;wait 2;scratch a 0;", x, 3, 0, 2, 1, 1, 0);
         s.fine("the MINUTE", x, x.many(5), 2);

@@ -47,7 +47,7 @@ final class ReckonBounds {
         s.refused("THING 3", x, x.soonest(3), 2);
         s.refused("THING -1", x, x.soonest(-1), 2);
         s.refused("THING MAX", x, x.soonest(MAX), 2);
-        s.says(0, "SOONEST of a THING: the MINUTE in which it is FOUND, if it is SCRATCHED as soon as can be");
+        s.says(27, "SOONEST of a THING: the MINUTE in which it is FOUND, if it is SCRATCHED as soon as can be");
         s.fine("ahead of UP", x, x.soonest(0), 20);
         s.fine("by its BEARER", x, x.soonest(1), 20);
         s.fine("another", x, x.soonest(2), 6);
@@ -55,7 +55,7 @@ final class ReckonBounds {
         s.fine("UP in this MINUTE", x, x.soonest(0), 20);
         x.pass(1);
         s.fine("UP since a MINUTE", x, x.soonest(0), 21);
-        s.says(0, "(it is FOUND when it is FOUND, if it is SCRATCHED already); there is none, if nobody can.");
+        s.says(27, "(it is FOUND when it is FOUND, if it is SCRATCHED already); there is none, if nobody can.");
         x.mark();
         x.scratch(2, 0);
         x.pass(90);
@@ -80,7 +80,7 @@ final class ReckonBounds {
         for (int k = 0; k < 11; k++) {
             x.pass(k < 10 ? 999 : 9);
         }
-        s.says(0, "SOONEST of a THING: the MINUTE in which it is FOUND, if it is SCRATCHED as soon as can be");
+        s.says(27, "SOONEST of a THING: the MINUTE in which it is FOUND, if it is SCRATCHED as soon as can be");
         s.fine("in the last MINUTE", x, x.soonest(0), 10058);
         s.fine("as scratch says", x, x.scratch(0, 0), 10058);
         s.fine("FOUND when it is FOUND", x, x.soonest(0), 10058);
@@ -103,7 +103,7 @@ final class ReckonBounds {
         s.refused("works(-1)", all, all.works(-1), 2);
         s.refused("works(MIN)", all, all.works(MIN), 2);
         s.fine("nothing is done", all, all.many(7), 0);
-        s.says(0, "ROUND: PEOPLE SCRATCH THINGS that are UP now (who can, by what there is now), each PERSON at most one, each THING by at most one, so that the most are SCRATCHED;");
+        s.says(28, "ROUND: PEOPLE SCRATCH THINGS that are UP now (who can, by what there is now), each PERSON at most one, each THING by at most one, so that the most are SCRATCHED;");
         ItchParish six = Checks.with(NEXT + SEVEN + "thing a 0;".repeat(8));
         s.fine("the BEARER of all can't", six, six.round(), 6);
         int[] others = {0, 2, 3, 4, 5, 6};
@@ -130,7 +130,7 @@ final class ReckonBounds {
     }
 
     private void roundsChoose() {
-        s.says(0, "WORKS: of several ways that by THINGS, one by one, in which each is SCRATCHED by the one of the least number (by nobody comes behind all).");
+        s.says(29, "WORKS: of several ways that by THINGS, one by one, in which each is SCRATCHED by the one of the least number (by nobody comes behind all).");
         String two = "arm 0;kind step 1 spot 0;kind step 1 spot 1;person a home 0;person b home 0 reach 0;";
         // THING of a on b: SPOT 0 by a and b, SPOT 1 by a alone.
         ItchParish x = Checks.with(two + "thing a 0;thing a 1;");
@@ -160,7 +160,7 @@ final class ReckonBounds {
         s.refused("PERSON 7", x, x.needs(7), 2);
         s.refused("PERSON -1", x, x.needs(-1), 2);
         s.refused("PERSON MAX", x, x.needs(MAX), 2);
-        s.says(0, "NEED: the owner of a THING that is not SCRATCHED NEEDS its BEARER.");
+        s.says(30, "NEED: the owner of a THING that is not SCRATCHED NEEDS its BEARER.");
         ItchParish one = Checks.with("kind step 1 spot 0;" + SEVEN + "thing a 0;");
         s.fine("the first THING alone", one, one.needs(0), 2);
         x.scratch(0, 0);
@@ -185,7 +185,7 @@ final class ReckonBounds {
         s.says(31, "The shortest RING's length (8: there is none).");
         ItchParish nobody = new ItchParish();
         s.refused("nobody", nobody, nobody.ring(), 8);
-        s.says(0, "RING: PEOPLE who NEED each the next one, the last one the first one (one who NEEDS himself, too); the shortest one's length.");
+        s.says(31, "RING: PEOPLE who NEED each the next one, the last one the first one (one who NEEDS himself, too); the shortest one's length.");
         for (int people = 1; people <= 7; people++) {
             String text = needing(people);
             ItchParish x = Checks.with(text);
@@ -212,7 +212,7 @@ final class ReckonBounds {
         s.fine("nobody", nobody, nobody.ending(), 0);
         s.says(33, "ENDING: the set.");
         s.fine("nobody", nobody, nobody.endingSet(), 0);
-        s.says(0, "ENDING: the fewest THINGS, not SCRATCHED, without which there is no RING; of several sets the least as a number (1 for THING 0 ..).");
+        s.says(33, "ENDING: the fewest THINGS, not SCRATCHED, without which there is no RING; of several sets the least as a number (1 for THING 0 ..).");
         ItchParish none = Checks.with(needing(7).substring(0, needing(7).length() - 10));
         s.fine("no RING", none, none.ending(), 0);
         s.fine("no RING", none, none.endingSet(), 0);
@@ -237,7 +237,7 @@ final class ReckonBounds {
     }
 
     private void couples() {
-        s.says(0, "WHOSE: of an ITCH on a PERSON at a SPOT: all owners and KINDS by which a THING ITCHES there: how many couples;");
+        s.says(34, "WHOSE: of an ITCH on a PERSON at a SPOT: all owners and KINDS by which a THING ITCHES there: how many couples;");
         s.says(34, "WHOSE: how many couples (2).");
         ItchParish x = Checks.with("kind step 1 spot 9;".repeat(5) + SEVEN);
         s.fine("five KINDS of g, both round", x, x.couples(0, 5), 5);
@@ -272,7 +272,7 @@ final class ReckonBounds {
         s.refused("owner 4", x, x.whose(2, 2, 4), 2);
         s.refused("owner -1", x, x.whose(2, 2, -1), 2);
         s.refused("2 ahead of 8", x, x.whose(2, 3, 4), 2);
-        s.says(0, "the odds that a PERSON is the owner: the WEIGHTS of his KINDS of these by those of all.");
+        s.says(35, "the odds that a PERSON is the owner: the WEIGHTS of his KINDS of these by those of all.");
         x.rewrite(0, 2, 1);
         s.fraction("4 of 8", x, x.whose(2, 2, 1), 1, 2);
         x.rewrite(1, 2, 9);
@@ -292,7 +292,7 @@ final class ReckonBounds {
         x.tray(1, 0, 45);
         x.tray(2, 0, 44);
         x.tray(3, 0, 0);
-        s.says(0, "LAW of a TRAY: by threes an owner, a BEARER, a SPOT, the first n (0 to 15) threes:");
+        s.says(36, "LAW of a TRAY: by threes an owner, a BEARER, a SPOT, the first n (0 to 15) threes:");
         s.fine("n 0 of 60", x, x.laws(0, 0), 90);
         s.fine("n 0 of none", x, x.laws(3, 0), 90);
         s.refused("n 1 of none", x, x.laws(3, 1), 4);
@@ -336,7 +336,7 @@ final class ReckonBounds {
     private void lawsFit() {
         ItchParish x = Checks.with(SEVEN);
         x.tray(0, 0, 6);
-        s.says(0, "how many couples of a STEP (1 to 9) and a SPOT (0 to 9) are so for all threes; of these the first by STEPS, then SPOTS.");
+        s.says(37, "how many couples of a STEP (1 to 9) and a SPOT (0 to 9) are so for all threes; of these the first by STEPS, then SPOTS.");
         three(x, 0, 0, 1, 9);
         s.fine("STEPS 1, 8", x, x.laws(0, 1), 2);
         s.fine("STEP", x, x.lawOf(0, 1, 0), 1);
@@ -374,7 +374,7 @@ final class ReckonBounds {
     private void lawNumbers() {
         ItchParish x = Checks.with(SEVEN);
         x.tray(0, 3, 6);
-        s.says(0, "5 a number that can't be (a set with a THING that there is not, a number in a TRAY, too).");
+        s.says(36, "5 a number that can't be (a set with a THING that there is not, a number in a TRAY, too).");
         three(x, 0, 6, 6, 9);
         s.fine("the most", x, x.laws(0, 1), 1);
         long[] people = {7, -1, 256, 1L << 32, Long.MAX_VALUE, Long.MIN_VALUE};
@@ -398,7 +398,7 @@ final class ReckonBounds {
 
     private void hands() {
         ItchParish x = Checks.with(NEXT + SEVEN);
-        s.says(0, "HANDS: a word goes from a PERSON to each one on whom a THING of his would ITCH, of some KIND: the fewest such steps from one to another one;");
+        s.says(38, "HANDS: a word goes from a PERSON to each one on whom a THING of his would ITCH, of some KIND: the fewest such steps from one to another one;");
         for (int other = 0; other < 7; other++) {
             s.fine("hands(0, " + other + ")", x, x.hands(0, other), other);
         }
@@ -436,7 +436,7 @@ final class ReckonBounds {
         s.refused("2 ahead of 8", x, x.way(0, 7, -1), 2);
         x.rewrite(0, 0, 7);
         s.refused("by none", x, x.way(0, 1, 0), 8);
-        s.says(0, "WAY: the PEOPLE on it, of several the first by PEOPLE, one by one.");
+        s.says(39, "WAY: the PEOPLE on it, of several the first by PEOPLE, one by one.");
         ItchParish y = Checks.with("kind step 2 spot 0;kind step 1 spot 0;" + SEVEN);
         s.fine("0, 1 or 2, 3", y, y.way(0, 3, 1), 1);
         s.fine("to 5: 0, 1, 3, 5", y, y.way(0, 5, 1), 1);
@@ -449,7 +449,7 @@ final class ReckonBounds {
     }
 
     private void signs() {
-        s.says(0, "SIGNS of one to another one: at how many SPOTS of the other one a THING of the one would ITCH, by all KINDS.");
+        s.says(40, "SIGNS of one to another one: at how many SPOTS of the other one a THING of the one would ITCH, by all KINDS.");
         ItchParish x = Checks.with("kind step 1 spot 0;kind step 8 spot 9;kind step 1 spot 5;kind step 8 spot 6;kind step 1 spot 7;" + SEVEN);
         s.fine("five", x, x.signs(0, 1), 5);
         s.fine("five, round", x, x.signs(6, 0), 5);
@@ -470,7 +470,7 @@ final class ReckonBounds {
 
     private void walks() {
         ItchParish x = Checks.with("kind step 1 spot 0;person a home 0;person b home 59;thing a 0;thing b 0;thing a 0;");
-        s.says(0, "WALK from a place of the road (0 to 59) for a set of THINGS: a tramp goes from there to all HOMES of their BEARERS, as he likes, not back: the fewest places along the road (0 for no THINGS).");
+        s.says(41, "WALK from a place of the road (0 to 59) for a set of THINGS: a tramp goes from there to all HOMES of their BEARERS, as he likes, not back: the fewest places along the road (0 for no THINGS).");
         s.fine("no THINGS", x, x.walk(30, 0), 0);
         s.fine("from 0 to both ends", x, x.walk(0, 3), 59);
         s.fine("from 59 to both ends", x, x.walk(59, 3), 59);
@@ -511,7 +511,7 @@ final class ReckonBounds {
 
     private void shares() {
         ItchParish x = Checks.with("kind step 1 spot 0;person a home 0;person b home 59;thing a 0;thing b 0;");
-        s.says(0, "SHARE of a THING of a set: how much more that is as it comes, on the mean of all orders in which those of the set come.");
+        s.says(42, "SHARE of a THING of a set: how much more that is as it comes, on the mean of all orders in which those of the set come.");
         s.fraction("alone", x, x.share(30, 1, 0), 29, 1);
         s.fraction("29 or 58", x, x.share(30, 3, 0), 87, 2);
         s.fraction("30 or 59", x, x.share(30, 3, 1), 89, 2);
@@ -550,7 +550,7 @@ final class ReckonBounds {
         s.refused("PERSON 3", x, x.game(3, 0, 1), 2);
         s.refused("PERSON -1", x, x.game(0, -1, 1), 2);
         s.refused("2 ahead of 5", x, x.game(3, 3, 5), 2);
-        s.says(0, "GAME of two PEOPLE and n turns (0 to 4): by turns, the first first, one SCRATCHES a THING that is UP now that he can SCRATCH and neither has in the game, or nothing: WORTHS of the first's less those of the second's, by best play.");
+        s.says(43, "GAME of two PEOPLE and n turns (0 to 4): by turns, the first first, one SCRATCHES a THING that is UP now that he can SCRATCH and neither has in the game, or nothing: WORTHS of the first's less those of the second's, by best play.");
         s.fine("turns 0", x, x.game(0, 1, 0), 0);
         s.fine("turns 1", x, x.game(0, 1, 1), 5);
         s.fine("turns 2", x, x.game(0, 1, 2), -4);
@@ -568,7 +568,7 @@ final class ReckonBounds {
     }
 
     private void gamesNow() {
-        s.says(0, "one SCRATCHES a THING that is UP now that he can SCRATCH and neither has in the game, or nothing");
+        s.says(43, "one SCRATCHES a THING that is UP now that he can SCRATCH and neither has in the game, or nothing");
         ItchParish one = Checks.with(NEXT + SEVEN + "thing a 0 worth 9;");
         s.fine("one THING for both", one, one.game(0, 2, 2), 9);
         s.fine("one THING for both, turns 4", one, one.game(0, 2, 4), 9);
@@ -597,7 +597,7 @@ final class ReckonBounds {
         s.refused("PERSON 3", x, x.moveOf(3, 0, 1), 2);
         s.refused("PERSON -1", x, x.moveOf(-1, 0, 1), 2);
         s.refused("2 ahead of 5", x, x.moveOf(0, 3, 0), 2);
-        s.says(0, "MOVE: the first's first THING, of all that are as good the first; nothing comes last.");
+        s.says(44, "MOVE: the first's first THING, of all that are as good the first; nothing comes last.");
         s.fine("turns 1", x, x.moveOf(0, 1, 1), 0);
         s.fine("turns 2", x, x.moveOf(0, 1, 2), 0);
         s.fine("turns 3, both alike", x, x.moveOf(0, 1, 3), 0);
@@ -613,7 +613,7 @@ final class ReckonBounds {
 
     private void tongues() {
         ItchParish x = new ItchParish();
-        s.says(0, "TONGUE of n (0 to 12): in each MINUTE it is SCRATCHED by ODDS sixteenths: the odds that it is in one of n.");
+        s.says(45, "TONGUE of n (0 to 12): in each MINUTE it is SCRATCHED by ODDS sixteenths: the odds that it is in one of n.");
         s.fraction("n 0", x, x.tongue(0), 0, 1);
         s.fraction("n 1", x, x.tongue(1), 1, 4);
         s.fraction("n 12, ODDS 4", x, x.tongue(12), 16245775, 16777216);

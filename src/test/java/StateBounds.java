@@ -79,7 +79,7 @@ final class StateBounds {
 
     private void manyCalls() {
         ItchParish x = Checks.with(ONE);
-        s.says(0, "An object is used for at most 512 calls after it has been made; what later calls answer is free.");
+        s.says(1, "An object is used for at most 512 calls after it has been made; what later calls answer is free.");
         for (int call = 5; call <= 510; call++) {
             x.pass(1);
         }
@@ -152,7 +152,7 @@ final class StateBounds {
         s.due("top() stays", x.top(), 1);
         s.says(4, "Its bottom, above 0.");
         s.due("bottom() stays", x.bottom(), 2);
-        s.says(0, "FRACTIONS are told by top() and bottom() without a common divisor, the bottom above 0; 0 is 0 by 1.");
+        s.says(4, "FRACTIONS are told by top() and bottom() without a common divisor, the bottom above 0; 0 is 0 by 1.");
         s.fraction("0 of 1", x, x.tongue(0), 0, 1);
         x.rule(3, 16);
         s.fraction("1", x, x.tongue(12), 1, 1);
@@ -190,7 +190,7 @@ final class StateBounds {
         s.refused("1 ahead of 5", x, x.tray(4, 0, 61), 1);
         s.refused("1 ahead of 6", x, x.tray(2, 4, -1), 1);
         s.refused("a refused TRAY is MISSING still", x, x.read(2, 0), 3);
-        s.says(0, "TRAYS, 0 to 3, are MISSING at first, or rows of numbers of 8 bits (sort 0), 16 (1), 32 (2) or 64 (3), with sign;");
+        s.says(5, "TRAYS, 0 to 3, are MISSING at first, or rows of numbers of 8 bits (sort 0), 16 (1), 32 (2) or 64 (3), with sign;");
         s.fine("tray 3 of sort 3", x, x.tray(3, 3, 2));
         x.write(3, 0, Long.MAX_VALUE);
         x.write(3, 1, -7);
@@ -205,7 +205,7 @@ final class StateBounds {
 
     private void cut() {
         ItchParish x = new ItchParish();
-        s.says(0, "what is written is cut to these.");
+        s.says(6, "what is written is cut to these.");
         for (int sort = 0; sort < 4; sort++) {
             x.tray(sort, sort, 1);
         }
@@ -405,13 +405,13 @@ final class StateBounds {
     private void bearersGoRound() {
         ItchParish x = Checks.with("kind step 9 spot 9;kind step 1 spot 0;kind step 7 spot 4;person a home 0;person b home 1;person c home 2;"
             + "person d home 3;person e home 4;person f home 5;person g home 6;thing g 0;thing g 1;thing g 2;thing a 0;thing f 0;thing b 0;");
-        s.says(0, "A THING ITCHES on its BEARER: he whose number is its owner's and STEP of its KIND together, the rest by how many PEOPLE there are (the owner himself, perhaps)");
+        s.says(16, "A THING ITCHES on its BEARER: he whose number is its owner's and STEP of its KIND together, the rest by how many PEOPLE there are (the owner himself, perhaps)");
         int[] bearers = {1, 0, 6, 2, 0, 3};
         int[] spots = {5, 6, 0, 9, 4, 0};
         for (int thing = 0; thing < bearers.length; thing++) {
             s.fine("BEARER of " + thing, x, x.thing(thing, 4), bearers[thing]);
         }
-        s.says(0, "at a SPOT: that of its KIND and its owner's number together, the rest by 10.");
+        s.says(16, "at a SPOT: that of its KIND and its owner's number together, the rest by 10.");
         for (int thing = 0; thing < spots.length; thing++) {
             s.fine("SPOT of " + thing, x, x.thing(thing, 5), spots[thing]);
         }
@@ -457,11 +457,11 @@ final class StateBounds {
 
     private void upFromItsMinute() {
         ItchParish x = Checks.with(THREE);
-        s.says(0, "It COMES UP so many MINUTES behind the one in which it was LOST as the BEARER is FAR from the owner (all this by who there is now).");
+        s.says(16, "It COMES UP so many MINUTES behind the one in which it was LOST as the BEARER is FAR from the owner (all this by who there is now).");
         s.fine("thing(0, 6)", x, x.thing(0, 6), 10);
         s.fine("thing(1, 6)", x, x.thing(1, 6), 30);
         s.fine("thing(2, 6)", x, x.thing(2, 6), 0);
-        s.says(0, "It is UP from that MINUTE on, if it is not SCRATCHED.");
+        s.says(13, "It is UP from that MINUTE on, if it is not SCRATCHED.");
         s.fine("pass(9)", x, x.pass(9), 4);
         s.fine("pass(1)", x, x.pass(1), 5);
         s.fine("pass(19)", x, x.pass(19), 5);
@@ -469,7 +469,7 @@ final class StateBounds {
         s.fine("pass(999)", x, x.pass(999), 7);
         s.fine("scratch", x, x.scratch(1, 0), 1039);
         s.fine("pass(1)", x, x.pass(1), 6);
-        s.says(0, "(all this by who there is now)");
+        s.says(16, "(all this by who there is now)");
         ItchParish y = Checks.with(THREE);
         y.pass(10);
         s.fine("UP", y, y.many(6), 5);
@@ -489,7 +489,7 @@ final class StateBounds {
 
     private void farAndHomes() {
         ItchParish x = Checks.with("person a home 0;person b home 59;person c home 59;");
-        s.says(0, "FAR is a PERSON from another one by how many places their HOMES are apart.");
+        s.says(17, "FAR is a PERSON from another one by how many places their HOMES are apart.");
         s.says(17, "FAR (2).");
         s.fine("far(0, 1)", x, x.far(0, 1), 59);
         s.fine("far(1, 0)", x, x.far(1, 0), 59);
@@ -550,7 +550,7 @@ final class StateBounds {
         s.fine("eight", x, x.many(2), 8);
         x.scratch(0, 0);
         s.refused("a ninth, one SCRATCHED", x, x.lose(0, 0, 1), 7);
-        s.says(0, "LOSE: one THING more, LOST in this MINUTE.");
+        s.says(19, "LOSE: one THING more, LOST in this MINUTE.");
         ItchParish y = Checks.with(ONE + "person b home 59;");
         toLastMinute(y);
         s.fine("in MINUTE 9999", y, y.lose(0, 0, 1), 0);
@@ -580,7 +580,7 @@ final class StateBounds {
         for (int k = 0; k < 8; k++) {
             x.pass(999);
         }
-        s.says(0, "A MINUTE goes by (to 9,999).");
+        s.says(20, "A MINUTE goes by (to 9,999).");
         s.fine("8992", x, x.many(5), 8992);
         s.fine("to 9001", x, x.pass(9), 7);
         s.refused("to 10000", x, x.pass(999), 7);
@@ -606,7 +606,7 @@ final class StateBounds {
         x.pass(9);
         s.refused("not UP at 9", x, x.scratch(2, 0), 9);
         x.pass(1);
-        s.says(0, "It can be SCRATCHED, when it is UP, by its BEARER, if he can REACH that SPOT, or by each other PERSON who is no FARTHER from the BEARER than ARM.");
+        s.says(21, "It can be SCRATCHED, when it is UP, by its BEARER, if he can REACH that SPOT, or by each other PERSON who is no FARTHER from the BEARER than ARM.");
         s.fine("who could", x, x.thing(0, 9), 4 + 16);
         s.refused("the BEARER can't REACH it, near as he is", x, x.scratch(1, 0), 9);
         s.refused("one place too FAR", x, x.scratch(3, 0), 9);
@@ -633,7 +633,7 @@ final class StateBounds {
 
     private void foundOnce() {
         ItchParish x = Checks.with(THREE);
-        s.says(0, "The owner has FOUND it so many MINUTES behind the one in which it was SCRATCHED as the BEARER is FAR from him (reckoned once, as it is SCRATCHED).");
+        s.says(21, "The owner has FOUND it so many MINUTES behind the one in which it was SCRATCHED as the BEARER is FAR from him (reckoned once, as it is SCRATCHED).");
         x.pass(12);
         s.fine("scratch", x, x.scratch(1, 0), 22);
         x.move(0, 59);
@@ -766,7 +766,7 @@ final class StateBounds {
         s.says(50, "All is taken back to the latest MARK: how many there are left (8).");
         s.refused("none", x, x.back(), 8);
         s.says(49, "A MARK more: how many there are (7).");
-        s.says(0, "MARKS, at most 3:");
+        s.says(49, "MARKS, at most 3:");
         s.fine("first", x, x.mark(), 1);
         s.fine("second", x, x.mark(), 2);
         s.fine("third", x, x.mark(), 3);
@@ -783,7 +783,7 @@ final class StateBounds {
 
     private void marksKeep() {
         ItchParish x = Checks.with(THREE);
-        s.says(0, "the DISTRICT with all that became of it, the DAYS are kept as they are; all is taken back to the latest MARK, which is gone then.");
+        s.says(50, "the DISTRICT with all that became of it, the DAYS are kept as they are; all is taken back to the latest MARK, which is gone then.");
         x.mark();
         Checks.days(x, "wait 5;");
         x.pass(10);

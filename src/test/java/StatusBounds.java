@@ -81,7 +81,7 @@ final class StatusBounds {
         return new ItchParish();
     }
 
-    /** All that can be seen of an object, which is used up by it. */
+    /** All that can be seen of an object, by fewer than 300 calls, which use it up. */
     private static List<Long> all(ItchParish x, boolean withTape, boolean withFraction) {
         List<Long> all = new ArrayList<>();
         if (withFraction) {
@@ -91,21 +91,21 @@ final class StatusBounds {
         for (int what = 0; what <= 1 && withTape; what++) {
             all.add((long) x.fault(what));
         }
-        addDistrict(all, x);
         for (int tray = 0; tray < 4; tray++) {
             for (int place = 0; place < 7; place++) {
                 all.add(x.read(tray, place));
-                all.add((long) x.status());
             }
+            all.add((long) x.status());
         }
         for (int what = 0; what <= 4; what++) {
             all.add((long) x.lived(what));
         }
-        all.add((long) x.live(5));
         addDistrict(all, x);
+        all.add((long) x.live(5));
+        addOutline(all, x);
         for (int left = x.back(); left != NONE; left = x.back()) {
             all.add((long) left);
-            addDistrict(all, x);
+            addOutline(all, x);
             all.add((long) x.live(5));
         }
         if (withTape) {
@@ -118,27 +118,35 @@ final class StatusBounds {
     }
 
     private static void addDistrict(List<Long> all, ItchParish x) {
-        for (int what = 0; what <= 8; what++) {
-            all.add((long) x.many(what));
-        }
-        for (int kind = 0; kind < x.many(0); kind++) {
+        int things = x.many(2);
+        addOutline(all, x);
+        for (int kind = 0; kind < 5; kind++) {
             for (int what = 0; what <= 2; what++) {
                 all.add((long) x.kind(kind, what));
             }
         }
-        for (int person = 0; person < x.many(1); person++) {
-            all.add((long) x.person(person, 0));
-            all.add((long) x.person(person, 1));
-        }
-        for (int thing = 0; thing < x.many(2); thing++) {
+        for (int thing = 0; thing < things; thing++) {
             for (int what = 0; what <= 3; what++) {
                 all.add((long) x.thing(thing, what));
             }
+        }
+    }
+
+    private static void addOutline(List<Long> all, ItchParish x) {
+        for (int what = 0; what <= 8; what++) {
+            all.add((long) x.many(what));
+        }
+        for (int person = 0; person < 7; person++) {
+            all.add((long) x.person(person, 0));
+            all.add((long) x.person(person, 1));
+        }
+        for (int thing = 0; thing < 8; thing++) {
             all.add((long) x.thing(thing, 8));
         }
     }
 
     private void refused(Supplier<ItchParish> made, String what, ToLongFunction<ItchParish> call, int status) {
+        s.saysOf(what.split("[^a-zA-Z]")[0]);
         ItchParish x = made.get();
         s.refused(what, x, call.applyAsLong(x), status);
         boolean withTape = status != 10;
@@ -150,6 +158,7 @@ final class StatusBounds {
     }
 
     private void asks(Supplier<ItchParish> made, String what, ToLongFunction<ItchParish> call) {
+        s.saysOf(what);
         ItchParish x = made.get();
         call.applyAsLong(x);
         s.due(what + " status()", x.status(), 0);
@@ -157,7 +166,7 @@ final class StatusBounds {
     }
 
     private void noTray() {
-        s.says(0, "STATUS of a call is the first of these that holds: 1 no such TRAY (or sort).");
+        s.says(2, "STATUS of a call is the first of these that holds: 1 no such TRAY (or sort).");
         for (int tray : new int[] {-1, 4, MAX, Integer.MIN_VALUE}) {
             refused(StatusBounds::full, "tray", x -> bit(x.tray(tray, 0, 61)), 1);
             refused(StatusBounds::full, "tray, sort", x -> bit(x.tray(0, tray, -1)), 1);
@@ -172,7 +181,7 @@ final class StatusBounds {
     }
 
     private void noSuch() {
-        s.says(0, "2 no such PERSON, KIND, THING, SPOT.");
+        s.says(2, "2 no such PERSON, KIND, THING, SPOT.");
         for (int person : new int[] {-1, 7, MAX, Integer.MIN_VALUE}) {
             refused(StatusBounds::full, "person", x -> x.person(person, 4), 2);
             refused(StatusBounds::full, "far", x -> x.far(person, 0), 2);
@@ -216,7 +225,7 @@ final class StatusBounds {
     }
 
     private void missing() {
-        s.says(0, "3 the TRAY is MISSING.");
+        s.says(2, "3 the TRAY is MISSING.");
         refused(StatusBounds::full, "write", x -> bit(x.write(3, -1, 1)), 3);
         refused(StatusBounds::full, "read", x -> x.read(3, 60), 3);
         refused(StatusBounds::full, "pour from", x -> bit(x.pour(3, -1, 1, 0, -1)), 3);
@@ -227,7 +236,7 @@ final class StatusBounds {
     }
 
     private void noPlace() {
-        s.says(0, "4 a place that the TRAY has not, or too few numbers.");
+        s.says(2, "4 a place that the TRAY has not, or too few numbers.");
         for (int place : new int[] {-1, 6, 60, MAX, Integer.MIN_VALUE}) {
             refused(StatusBounds::full, "write", x -> bit(x.write(0, place, 1)), 4);
             refused(StatusBounds::full, "read", x -> x.read(0, place), 4);
@@ -243,7 +252,7 @@ final class StatusBounds {
     }
 
     private void badNumber() {
-        s.says(0, "5 a number that can't be (a set with a THING that there is not, a number in a TRAY, too).");
+        s.says(2, "5 a number that can't be (a set with a THING that there is not, a number in a TRAY, too).");
         refused(StatusBounds::full, "tray of 61", x -> bit(x.tray(0, 0, 61)), 5);
         refused(StatusBounds::full, "district(21) of 20", x -> x.district(21), 5);
         refused(StatusBounds::full, "days(21) of 20", x -> x.days(21), 5);
@@ -297,7 +306,7 @@ final class StatusBounds {
     }
 
     private void belowZero() {
-        s.says(0, "6 below 0 (a TRAY's length).");
+        s.says(2, "6 below 0 (a TRAY's length).");
         for (int many : new int[] {-1, -60, Integer.MIN_VALUE}) {
             refused(StatusBounds::full, "tray", x -> bit(x.tray(0, 3, many)), 6);
             refused(StatusBounds::full, "tray that is MISSING", x -> bit(x.tray(3, 3, many)), 6);
@@ -306,7 +315,7 @@ final class StatusBounds {
     }
 
     private void tooMany() {
-        s.says(0, "7 one too many.");
+        s.says(2, "7 one too many.");
         refused(StatusBounds::full, "lose", x -> x.lose(0, 0, 1), 7);
         refused(StatusBounds::full, "pass", x -> x.pass(10), 7);
         refused(StatusBounds::full, "come", x -> x.come(0), 7);
@@ -314,7 +323,7 @@ final class StatusBounds {
     }
 
     private void noneThere() {
-        s.says(0, "8 there is none.");
+        s.says(2, "8 there is none.");
         refused(StatusBounds::small, "thing, SCRATCHED", x -> x.thing(0, 7), 8);
         refused(StatusBounds::small, "thing, FOUND", x -> x.thing(0, 8), 8);
         refused(StatusBounds::small, "soonest", x -> x.soonest(0), 8);
@@ -339,7 +348,7 @@ final class StatusBounds {
     }
 
     private void canNotBe() {
-        s.says(0, "9 it can't be.");
+        s.says(2, "9 it can't be.");
         refused(StatusBounds::small, "scratch, he can't", x -> x.scratch(1, 0), 9);
         refused(StatusBounds::small, "scratch, too FAR", x -> x.scratch(0, 0), 9);
         refused(StatusBounds::full, "teach, he can", x -> bit(x.teach(0, 5, true)), 9);
@@ -360,12 +369,12 @@ final class StatusBounds {
     }
 
     private void faults() {
-        s.says(0, "10 a FAULT.");
+        s.says(2, "10 a FAULT.");
         for (int n : new int[] {1, 6, 12, 14, 20}) {
             refused(StatusBounds::full, "district(" + n + ")", x -> x.district(n), 10);
             refused(StatusBounds::full, "days(" + n + ")", x -> x.days(n), 10);
         }
-        s.says(0, "A call with another STATUS than 0 gives NONE, or false, and changes nothing but STATUS (but district(), days() with 10 the tape, and what fault() tells).");
+        s.says(2, "A call with another STATUS than 0 gives NONE, or false, and changes nothing but STATUS (but district(), days() with 10 the tape, and what fault() tells).");
         ItchParish x = full();
         x.days(0);
         Checks.feed(x, "odds 3;arm 2;a 99999");
@@ -381,13 +390,13 @@ final class StatusBounds {
     }
 
     private void unlike() {
-        s.says(0, "11 TRAYS of unlike sorts.");
+        s.says(2, "11 TRAYS of unlike sorts.");
         refused(StatusBounds::full, "pour", x -> bit(x.pour(0, -1, 1, 99, -1)), 11);
         refused(StatusBounds::full, "pour of none", x -> bit(x.pour(1, 0, 0, 0, 0)), 11);
     }
 
     private void asking() {
-        s.says(0, "0 else.");
+        s.says(2, "0 else.");
         asks("many", x -> x.many(6));
         asks("kind", x -> x.kind(4, 2));
         asks("person", x -> x.person(6, 3));
@@ -420,7 +429,7 @@ final class StatusBounds {
     }
 
     private void belowNone() {
-        s.says(0, "Where a number may be below 0, STATUS tells NONE from -1.");
+        s.says(2, "Where a number may be below 0, STATUS tells NONE from -1.");
         ItchParish x = full();
         s.fine("read", x, x.read(2, 1), -1);
         s.refused("read", x, x.read(2, 3), 4);

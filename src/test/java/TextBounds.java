@@ -59,9 +59,9 @@ final class TextBounds {
         x.many(9);
         s.due("feed 46", x.feed(0, 0, 0, 0, 0), NONE);
         s.due("feed 47", x.feed(0, 0, 0, 0, 0), NONE);
-        s.says(0, "status(), fault(), feed(), top(), bottom() have none");
+        s.says(2, "status(), fault(), feed(), top(), bottom() have none");
         s.due("status() behind feed", x.status(), 5);
-        s.says(0, "A DISTRICT is a TEXT of at most 900 bytes");
+        s.says(10, "A DISTRICT is a TEXT of at most 900 bytes");
         s.refused("district(901)", x, x.district(901), 5);
         s.refused("district(MAX)", x, x.district(Integer.MAX_VALUE), 5);
         s.refused("the 900 are there as they were", x, x.district(900), 10);
@@ -132,7 +132,7 @@ final class TextBounds {
         s.refused("n 320 of 320", x, x.days(320), 5);
         s.refused("n MAX", x, x.days(Integer.MAX_VALUE), 5);
         s.fine("the old ones stay for 5", x, x.live(0), 1);
-        s.says(0, "DAYS are a TEXT of at most 300 bytes, of such TOKENS (none at first)");
+        s.says(11, "DAYS are a TEXT of at most 300 bytes, of such TOKENS (none at first)");
         s.fine("n 300 of 320", x, x.days(300), 2);
         s.due("the tape is empty", x.feed(0x3f3f3f3f, 0, 0, 0, 0), 20);
         s.refused("a fault", x, x.days(1), 10);
@@ -181,7 +181,7 @@ final class TextBounds {
         s.due("fault(MAX)", x.fault(Integer.MAX_VALUE), NONE);
         Checks.district(x, "arm 3;");
         s.due("fault(2) without one", x.fault(2), NONE);
-        s.says(0, "status(), fault(), feed(), top(), bottom() have none");
+        s.says(2, "status(), fault(), feed(), top(), bottom() have none");
         x.many(9);
         x.fault(0);
         s.due("status() behind fault(0)", x.status(), 5);
@@ -191,7 +191,7 @@ final class TextBounds {
 
     private void blanks() {
         ItchParish x = new ItchParish();
-        s.says(0, "TOKENS, as long as they go, between them blanks (10, 32)");
+        s.says(10, "TOKENS, as long as they go, between them blanks (10, 32)");
         s.fine("10 and 32", x, Checks.district(x, "\n odds\n\n3 \n;\n"), 0);
         s.fine("odds 3", x, x.many(3), 3);
         s.fine("blanks alone", x, Checks.district(x, " \n \n"), 0);
@@ -212,7 +212,7 @@ final class TextBounds {
     }
 
     private void words() {
-        s.says(0, "WORDS (small letters)");
+        s.says(10, "WORDS (small letters)");
         s.districtFault("person A home 1;", 1, 7);
         s.districtFault("person Z home 1;", 1, 7);
         s.districtFault("person ` home 1;", 1, 7);
@@ -226,7 +226,7 @@ final class TextBounds {
     }
 
     private void numbers() {
-        s.says(0, "NUMBERS (1 to 4 digits)");
+        s.says(10, "NUMBERS (1 to 4 digits)");
         s.districtFault("odds 9999;", 4, 5);
         s.districtFault("odds 0017;", 4, 5);
         s.districtFault("odds 00000;", 1, 5);
@@ -241,7 +241,7 @@ final class TextBounds {
         s.fine("arm 59", x, x.many(4), 59);
         s.fine("reach 9 0 1", x, x.person(0, 1), 515);
         s.districtFault("person a home 0 reach 0 00;", 5, 24);
-        s.says(0, "1 no TOKEN begins so (a NUMBER of 5 digits and more: at its first)");
+        s.says(12, "1 no TOKEN begins so (a NUMBER of 5 digits and more: at its first)");
         s.districtFault("12345", 1, 0);
         s.districtFault("odds  10000;", 1, 6);
         s.districtFault("odds 123456789012345678901234567890;", 1, 5);
@@ -252,7 +252,7 @@ final class TextBounds {
     }
 
     private void signs() {
-        s.says(0, "SIGNS ; < > =");
+        s.says(10, "SIGNS ; < > =");
         for (char sign : new char[] {'<', '>', '=', ';'}) {
             s.districtFault("odds " + sign + ";", 2, 5);
             s.districtFault("" + sign, 2, 0);
@@ -268,7 +268,7 @@ final class TextBounds {
     }
 
     private void names() {
-        s.says(0, "NAME: a WORD of 1 to 8 letters that is none of odds, arm, kind, step, spot, weight, person, home, reach, thing, worth, lose, "
+        s.says(10, "NAME: a WORD of 1 to 8 letters that is none of odds, arm, kind, step, spot, weight, person, home, reach, thing, worth, lose, "
             + "wait, scratch, any, when, found, up, minute, loop, end, stop.");
         ItchParish x = new ItchParish();
         s.fine("1 to 8 letters", x, Checks.district(x, "person a home 0;person ab home 1;person abcdefg home 2;person abcdefgh home 3;"
@@ -283,15 +283,15 @@ final class TextBounds {
             ItchParish y = new ItchParish();
             s.fine("a NAME: " + word, y, Checks.district(y, KIND + "person " + word + " home 7;thing " + word + " 0;"), 1);
         }
-        s.says(0, "a WORD of 9 letters and more where a NAME must stand");
+        s.says(12, "a WORD of 9 letters and more where a NAME must stand");
         s.districtFault("person abcdefghi home 0;", 2, 7);
         s.districtFault("person " + "a".repeat(60) + " home 0;", 2, 7);
         s.districtFault("person abcdefgh home 0;" + KIND + "thing abcdefghi 0;", 2, 48);
         s.daysFault("person abcdefgh home 0;" + KIND, "lose abcdefghi 0;", 2, 5);
         s.daysFault("person abcdefgh home 0;" + KIND, "scratch abcdefghi 0;", 2, 8);
         s.districtFault("scratched 0;", 2, 0);
-        s.says(0, "No two PEOPLE have one NAME.");
-        s.says(0, "3 a new NAME that is taken; a NAME that is no PERSON told ahead.");
+        s.says(10, "No two PEOPLE have one NAME.");
+        s.says(12, "3 a new NAME that is taken; a NAME that is no PERSON told ahead.");
         s.districtFault("person a home 0;person b home 0;person a home 0;", 3, 39);
         s.districtFault("person a home 0;person a", 3, 23);
         s.districtFault("person abcdefgh home 0;person abcdefgh home", 3, 30);
@@ -307,7 +307,7 @@ final class TextBounds {
 
     private void rules() {
         ItchParish x = new ItchParish();
-        s.says(0, "ODDS (0 to 16; 4 without)");
+        s.says(10, "ODDS (0 to 16; 4 without)");
         s.fine("odds 0", x, Checks.district(x, "odds 0;"), 0);
         s.fine("0", x, x.many(3), 0);
         s.fine("odds 16", x, Checks.district(x, "odds 16;"), 0);
@@ -315,7 +315,7 @@ final class TextBounds {
         s.fine("without", x, Checks.district(x, "arm 1;"), 0);
         s.fine("4", x, x.many(3), 4);
         s.districtFault("odds 17;", 4, 5);
-        s.says(0, "ARM (0 to 59; 5 without)");
+        s.says(10, "ARM (0 to 59; 5 without)");
         s.fine("arm 0", x, Checks.district(x, "arm 0;"), 0);
         s.fine("0", x, x.many(4), 0);
         s.fine("arm 59", x, Checks.district(x, "arm 59;"), 0);
@@ -323,7 +323,7 @@ final class TextBounds {
         s.fine("without", x, Checks.district(x, "odds 1;"), 0);
         s.fine("5", x, x.many(4), 5);
         s.districtFault("arm 60;", 4, 4);
-        s.says(0, "5 odds, arm told already (at that WORD), a SPOT told twice of one PERSON (at the second).");
+        s.says(12, "5 odds, arm told already (at that WORD), a SPOT told twice of one PERSON (at the second).");
         s.districtFault("odds 1;arm 1;odds 1;", 5, 13);
         s.districtFault("odds 1;arm 1;arm", 5, 13);
         s.districtFault("odds 1;odds odds", 5, 7);
@@ -335,7 +335,7 @@ final class TextBounds {
 
     private void kinds() {
         ItchParish x = new ItchParish();
-        s.says(0, "KINDS, at most 5: STEP (1 to 9), SPOT (0 to 9), WEIGHT (1 to 9; 1 without).");
+        s.says(10, "KINDS, at most 5: STEP (1 to 9), SPOT (0 to 9), WEIGHT (1 to 9; 1 without).");
         s.fine("five", x, Checks.district(x, "kind step 1 spot 0;kind step 9 spot 9;kind step 5 spot 5 weight 1;kind step 5 spot 5 weight 9;" + KIND), 0);
         s.fine("5", x, x.many(0), 5);
         int[][] due = {{1, 0, 1}, {9, 9, 1}, {5, 5, 1}, {5, 5, 9}, {1, 1, 1}};
@@ -349,7 +349,7 @@ final class TextBounds {
         s.districtFault("kind step 1 spot 10;", 4, 17);
         s.districtFault("kind step 1 spot 0 weight 0;", 4, 26);
         s.districtFault("kind step 1 spot 0 weight 10;", 4, 26);
-        s.says(0, "6 a sixth kind, an eighth person, a ninth thing (at that WORD).");
+        s.says(12, "6 a sixth kind, an eighth person, a ninth thing (at that WORD).");
         s.districtFault(KIND.repeat(5) + KIND, 6, 95);
         s.districtFault(KIND.repeat(5) + "kind 12345", 6, 95);
         s.districtFault(KIND.repeat(5) + "\nkind", 6, 96);
@@ -357,7 +357,7 @@ final class TextBounds {
         s.districtFault(seven() + "person a home 0;", 6, 112);
         s.districtFault(KIND + "person a home 0;" + "thing a 0;".repeat(8) + "thing", 6, 115);
         s.districtFault(KIND + "person a home 0;" + "thing a 0;".repeat(8) + "thing b 9;", 6, 115);
-        s.says(0, "4 a NUMBER that can't be (no such KIND told ahead, too).");
+        s.says(12, "4 a NUMBER that can't be (no such KIND told ahead, too).");
         s.districtFault("person a home 0;thing a 0;" + KIND, 4, 24);
         s.districtFault(KIND + "person a home 0;thing a 1;", 4, 43);
         s.districtFault(KIND.repeat(5) + "person a home 0;thing a 5;", 4, 119);
@@ -365,7 +365,7 @@ final class TextBounds {
 
     private void people() {
         ItchParish x = new ItchParish();
-        s.says(0, "PEOPLE, at most 7: HOME (0 to 59, a place of the road), the SPOTS (0 to 9, each told once) that each can REACH on himself (none without).");
+        s.says(10, "PEOPLE, at most 7: HOME (0 to 59, a place of the road), the SPOTS (0 to 9, each told once) that each can REACH on himself (none without).");
         s.fine("seven", x, Checks.district(x, "person a home 0;person b home 59;person c home 0 reach;person d home 0 reach 0;"
             + "person e home 0 reach 9;person f home 0 reach 9 8 7 6 5 4 3 2 1 0;person g home 0 reach 5 1;"), 7);
         int[] homes = {0, 59, 0, 0, 0, 0, 0};
@@ -383,7 +383,7 @@ final class TextBounds {
 
     private void things() {
         ItchParish x = new ItchParish();
-        s.says(0, "THINGS, at most 8: of an owner (a PERSON told ahead), of a KIND told ahead, WORTH (1 to 9; 1 without); LOST at MINUTE 0.");
+        s.says(10, "THINGS, at most 8: of an owner (a PERSON told ahead), of a KIND told ahead, WORTH (1 to 9; 1 without); LOST at MINUTE 0.");
         s.fine("eight", x, Checks.district(x, KIND + "person a home 0;thing a 0;thing a 0 worth 1;thing a 0 worth 9;" + KIND
             + "person b home 0;thing b 1 worth 5;thing b 0;thing a 1;thing b 1;thing a 0;"), 2);
         s.fine("8", x, x.many(2), 8);
@@ -396,9 +396,9 @@ final class TextBounds {
             s.fine("WORTH " + thing, x, x.thing(thing, 2), worths[thing]);
             s.fine("LOST " + thing, x, x.thing(thing, 3), 0);
         }
-        s.says(0, "All are numbered as they stand.");
+        s.says(10, "All are numbered as they stand.");
         s.fine("b is the second", x, x.person(1, 3), 8 + 16 + 64);
-        s.says(0, "WORTH (1 to 9; 1 without)");
+        s.says(10, "WORTH (1 to 9; 1 without)");
         s.districtFault(KIND + "person a home 0;thing a 0 worth 0;", 4, 51);
         s.districtFault(KIND + "person a home 0;thing a 0 worth 10;", 4, 51);
         s.districtFault(KIND + "person a home 0;thing a 0 worth;", 2, 50);
@@ -406,7 +406,7 @@ final class TextBounds {
     }
 
     private void firstFault() {
-        s.says(0, "FAULTS, the first along the text (of one TOKEN the least kind):");
+        s.says(12, "FAULTS, the first along the text (of one TOKEN the least kind):");
         s.districtFault("odds 17;arm 60;?", 4, 5);
         s.districtFault("arm 60 odds 17;", 4, 4);
         s.districtFault("odds ?;;", 1, 5);
@@ -428,7 +428,7 @@ final class TextBounds {
     }
 
     private void faultPlaces() {
-        s.says(0, "2 it can't stand there (the end: the text's length;");
+        s.says(12, "2 it can't stand there (the end: the text's length;");
         s.districtFault("odds", 2, 4);
         s.districtFault("odds ", 2, 5);
         s.districtFault("odds 4", 2, 6);
@@ -454,7 +454,7 @@ final class TextBounds {
     }
 
     private void grammar() {
-        s.says(0, "DISTRICT: {PART}.");
+        s.says(10, "DISTRICT: {PART}.");
         ItchParish x = new ItchParish();
         s.fine("no PART", x, Checks.district(x, ""), 0);
         s.fine("PARTS in any order", x, Checks.district(x, "person a home 1;" + KIND + "arm 3;thing a 0;odds 2;person b home 2;"), 2);
@@ -466,7 +466,7 @@ final class TextBounds {
             boolean begins = word.equals("odds") || word.equals("arm") || word.equals("kind") || word.equals("person") || word.equals("thing");
             s.districtFault(word, 2, begins ? word.length() : 0);
         }
-        s.says(0, "PART: odds NUMBER ; or arm NUMBER ; or kind step NUMBER spot NUMBER [weight NUMBER] ; or person NAME home NUMBER [reach {NUMBER}] ;");
+        s.says(10, "PART: odds NUMBER ; or arm NUMBER ; or kind step NUMBER spot NUMBER [weight NUMBER] ; or person NAME home NUMBER [reach {NUMBER}] ;");
         s.districtFault("odds arm 1;", 2, 5);
         s.districtFault("kind spot 1 step 1;", 2, 5);
         s.districtFault("kind step spot 1;", 2, 10);
@@ -478,19 +478,19 @@ final class TextBounds {
         s.districtFault("person a home 1 2;", 2, 16);
         s.districtFault("person a home 1 reach <;", 2, 22);
         s.districtFault("person a b home 1;", 2, 9);
-        s.says(0, "or thing NAME NUMBER [worth NUMBER] ;");
+        s.says(10, "or thing NAME NUMBER [worth NUMBER] ;");
         s.districtFault("person a home 0;thing 0 a;", 2, 22);
         s.districtFault("person a home 0;thing a worth 1;", 2, 24);
         s.districtFault(KIND + "person a home 0;thing a 0 weight 1;", 2, 45);
         s.districtFault(KIND + "person a home 0;thing a 0 0;", 2, 45);
-        s.says(0, "({ } any number of times, [ ] perhaps.)");
+        s.says(10, "({ } any number of times, [ ] perhaps.)");
         s.fine("reach of none", x, Checks.district(x, "person a home 0 reach;"), 1);
         s.fine("REACH nothing", x, x.person(0, 1), 0);
     }
 
     private void districtInPlace() {
         ItchParish x = new ItchParish();
-        s.says(0, "A DISTRICT that is taken is there in place of that ahead; it is MINUTE 0; there are no DAYS.");
+        s.says(10, "A DISTRICT that is taken is there in place of that ahead; it is MINUTE 0; there are no DAYS.");
         Checks.district(x, "odds 9;arm 9;" + TWO + "thing a 0;");
         Checks.days(x, "any;");
         x.pass(999);
@@ -516,10 +516,10 @@ final class TextBounds {
 
     private void daysGrammar() {
         ItchParish x = Checks.with(TWO);
-        s.says(0, "DAYS: {STEP}.");
+        s.says(11, "DAYS: {STEP}.");
         s.fine("no STEP", x, Checks.days(x, " \n"), 0);
         s.fine("each STEP", x, Checks.days(x, "wait 1;lose a 1;scratch b 7;any;when found 7;any;end;when up 0;end;loop 2;stop;end;stop;"), 10);
-        s.says(0, "STEP: wait NUMBER ; or lose NAME NUMBER ; or scratch NAME NUMBER ; or any ; or when TEST ; {STEP} end ; or loop NUMBER ; {STEP} end ; or stop ;");
+        s.says(11, "STEP: wait NUMBER ; or lose NAME NUMBER ; or scratch NAME NUMBER ; or any ; or when TEST ; {STEP} end ; or loop NUMBER ; {STEP} end ; or stop ;");
         String[] cut = {"wait 1", "lose a 1", "scratch b 7", "any", "when found 7", "when up 0", "when minute<0", "loop 2", "stop"};
         for (String step : cut) {
             s.daysFault(TWO, step, 2, step.length());
@@ -539,18 +539,18 @@ final class TextBounds {
         s.daysFault(TWO, "scratch a a;", 2, 10);
         s.daysFault(TWO, "loop;", 2, 4);
         s.daysFault(TWO, "loop 1;end 1;", 2, 11);
-        s.says(0, "TEST: found NUMBER, or up NUMBER, or minute COMPARES NUMBER.");
+        s.says(11, "TEST: found NUMBER, or up NUMBER, or minute COMPARES NUMBER.");
         s.daysFault(TWO, "when;", 2, 4);
         s.daysFault(TWO, "when found;", 2, 10);
         s.daysFault(TWO, "when up<1;", 2, 7);
         s.daysFault(TWO, "when minute;", 2, 11);
         s.daysFault(TWO, "when any;", 2, 5);
-        s.says(0, "COMPARES: < or > or =");
+        s.says(11, "COMPARES: < or > or =");
         s.daysFault(TWO, "when minute 1;", 2, 12);
         s.daysFault(TWO, "when minute;1;", 2, 11);
         s.daysFault(TWO, "when minute<;", 2, 12);
         s.daysFault(TWO, "when minute<>1;", 2, 12);
-        s.says(0, "FAULTS: 1, 2 as above (an end without a beginning; the text's end ahead of an end: 2).");
+        s.says(12, "FAULTS: 1, 2 as above (an end without a beginning; the text's end ahead of an end: 2).");
         s.daysFault(TWO, "any:", 1, 3);
         s.daysFault(TWO, "any;\t", 1, 4);
         s.daysFault(TWO, "end;", 2, 0);
@@ -564,30 +564,30 @@ final class TextBounds {
 
     private void daysNumbers() {
         ItchParish x = Checks.with(TWO);
-        s.says(0, "3 a NAME that is no PERSON. 4 a NUMBER that can't be (no such KIND).");
+        s.says(12, "3 a NAME that is no PERSON. 4 a NUMBER that can't be (no such KIND).");
         s.daysFault(TWO, "lose c 0;", 3, 5);
         s.daysFault(TWO, "lose aa 9;", 3, 5);
         s.daysFault(TWO, "scratch c 9;", 3, 8);
         s.daysFault(TWO, "lose a 2;", 4, 7);
         s.daysFault("person a home 0;", "lose a 0;", 4, 7);
         s.fine("the last KIND", x, Checks.days(x, "lose b 1;"), 1);
-        s.says(0, "wait: so many MINUTES (1 to 99);");
+        s.says(11, "wait: so many MINUTES (1 to 99);");
         s.daysFault(TWO, "wait 0;", 4, 5);
         s.daysFault(TWO, "wait 100;", 4, 5);
         s.fine("1 and 99", x, Checks.days(x, "wait 1;wait 99;"), 2);
         s.fine("live", x, x.live(0), 2);
         s.fine("100 MINUTES", x, x.many(5), 100);
-        s.says(0, "scratch: a PERSON, a THING (0 to 7);");
+        s.says(11, "scratch: a PERSON, a THING (0 to 7);");
         s.daysFault(TWO, "scratch a 8;", 4, 10);
         s.fine("0 and 7", x, Checks.days(x, "scratch a 0;scratch a 7;"), 2);
-        s.says(0, "found, up: a THING (0 to 7) that there is and that is FOUND, UP now;");
+        s.says(11, "found, up: a THING (0 to 7) that there is and that is FOUND, UP now;");
         s.daysFault(TWO, "when found 8;end;", 4, 11);
         s.daysFault(TWO, "when up 8;end;", 4, 8);
         s.fine("0 and 7", x, Checks.days(x, "when found 0;end;when found 7;end;when up 0;end;when up 7;end;"), 4);
-        s.says(0, "minute: 0 to 9,999;");
+        s.says(11, "minute: 0 to 9,999;");
         s.daysFault(TWO, "when minute<10000;end;", 1, 12);
         s.fine("0 and 9999", x, Checks.days(x, "when minute=0;end;when minute=9999;end;"), 2);
-        s.says(0, "loop n (1 to 99): as often.");
+        s.says(11, "loop n (1 to 99): as often.");
         s.daysFault(TWO, "loop 0;end;", 4, 5);
         s.daysFault(TWO, "loop 100;end;", 4, 5);
         s.fine("1 and 99", x, Checks.days(x, "loop 1;end;loop 99;end;"), 2);
@@ -595,7 +595,7 @@ final class TextBounds {
 
     private void daysDepth() {
         ItchParish x = Checks.with(TWO);
-        s.says(0, "6 a 31st STEP (at its WORD; end is none).");
+        s.says(12, "6 a 31st STEP (at its WORD; end is none).");
         s.fine("thirty", x, Checks.days(x, "any;".repeat(30)), 30);
         s.fine("thirty with ends", x, Checks.days(x, "loop 9;end;".repeat(26) + "any;any;any;"), 29);
         s.fine("thirty with an end last", x, Checks.days(x, "any;".repeat(29) + "loop 1;end;"), 30);
@@ -603,7 +603,7 @@ final class TextBounds {
         s.daysFault(TWO, "any;".repeat(30) + " stop", 6, 121);
         s.daysFault(TWO, "any;".repeat(29) + "loop 1;any;end;", 6, 123);
         s.daysFault(TWO, "any;".repeat(30) + "wait 12345;", 6, 120);
-        s.says(0, "7 a when, loop within three others (at its WORD).");
+        s.says(12, "7 a when, loop within three others (at its WORD).");
         s.fine("three", x, Checks.days(x, "loop 1;when up 1;loop 1;any;end;end;end;"), 4);
         s.fine("three, and three again", x, Checks.days(x, "loop 1;loop 1;loop 1;end;loop 1;end;end;loop 1;end;end;loop 1;loop 1;loop 1;end;end;end;"), 8);
         s.daysFault(TWO, "loop 1;loop 1;loop 1;loop", 7, 21);
