@@ -107,6 +107,7 @@ final class Sentences {
         }
         String untold = rest.substring(doc.indexOf("## Terms") + 8, start(PROMISES + 1));
         return untold.replaceAll("# Promise \\d+: [A-Za-z ]+ `[^`]*`:", "")
-            .replaceAll("Ahead of the calls [`a-zA-Z, ]+ the interface says: ---- [A-Za-z, ]+\\.", "").replaceAll("==== \\d\\.", "").replaceAll("[^A-Za-z0-9]+", " ").trim();
+            .replaceAll("Ahead of the calls [`a-zA-Z, ]+ the interface says: ---- [A-Za-z, ]+\\.", "")
+            .replaceAll("==== \\d\\.", "").replaceAll("[^A-Za-z0-9]+", " ").trim();
     }
 }
