@@ -21,7 +21,7 @@ public final class ItchParish {
     private final Tape tape = new Tape();
     private final Parish parish = new Parish();
     private final Plan plan = new Plan();
-    // What is read or tried out stands here first, so that a fault leaves all as it was.
+    // What is read or tried out stands here first, so that a FAULT leaves the DISTRICT and the DAYS as they were.
     private final Parish spareParish = new Parish();
     private final Plan sparePlan = new Plan();
     private final DistrictReader districtReader = new DistrictReader(tape, spareParish);

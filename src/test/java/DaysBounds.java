@@ -47,7 +47,7 @@ final class DaysBounds {
 
     private static ItchParish atMinute(String district, int minute) {
         ItchParish x = Checks.with(district);
-        while (x.many(5) < minute) {
+        for (int k = 0; k < 20 && x.many(5) < minute; k++) {
             x.pass(Math.min(999, minute - x.many(5)));
         }
         return x;

@@ -3,7 +3,7 @@ import java.util.List;
 import java.util.function.Supplier;
 import java.util.function.ToLongFunction;
 
-/** STATUS by its numbers, for each call that can have it; and that such a call changes nothing. */
+/** STATUS by its numbers, for each call that can have it; and that such a call changes nothing but what the document names. */
 final class StatusBounds {
     private static final int NONE = ItchParish.NONE;
     private static final int MAX = Integer.MAX_VALUE;
@@ -103,7 +103,7 @@ final class StatusBounds {
         addDistrict(all, x);
         all.add((long) x.live(5));
         addOutline(all, x);
-        for (int left = x.back(); left != NONE; left = x.back()) {
+        for (int k = 0, left = x.back(); k < 4 && left != NONE; k++, left = x.back()) {
             all.add((long) left);
             addOutline(all, x);
             all.add((long) x.live(5));
