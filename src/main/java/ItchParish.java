@@ -2106,14 +2106,15 @@ public final class ItchParish {
 
         static long orders(int count) {
             long orders = 1;
-            for (int k = 2; k <= count; k++) {
+            for (int k = 2; k <= count && k <= Parish.MOST_THINGS; k++) {
                 orders *= k;
             }
             return orders;
         }
 
         static long shareOfAllOrders(Parish parish, int place, int set, int thing) {
-            int others = set & ~(1 << thing);
+            // No more bits than THINGS, so that the loop below ends for any set.
+            int others = set & (1 << Parish.MOST_THINGS) - 1 & ~(1 << thing);
             int count = Integer.bitCount(others);
             long sum = 0;
             for (int ahead = 0; ahead <= others; ahead++) {
